@@ -1,0 +1,4 @@
+public final class ModelTest {
+    public static void main(String[] args) {
+    }
+}
