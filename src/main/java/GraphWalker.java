@@ -60,16 +60,12 @@ public final class GraphWalker {
     }
 
     public int number(long v) throws IllegalStateException {
-        if (walk.terms.isFull()) {
-            throw new IllegalStateException("there are 200 terms");
-        }
+        refuseTermBeyondMost();
         return walk.terms.addNumber(v);
     }
 
     public int variable(int i) throws IllegalStateException, IllegalArgumentException {
-        if (walk.terms.isFull()) {
-            throw new IllegalStateException("there are 200 terms");
-        }
+        refuseTermBeyondMost();
         if (i < 0 || i > GREATEST_VARIABLE) {
             throw new IllegalArgumentException("a variable is 0 to 60");
         }
@@ -78,12 +74,8 @@ public final class GraphWalker {
 
     public int one(int sort, int t)
             throws IndexOutOfBoundsException, IllegalStateException, IllegalArgumentException {
-        if (!walk.terms.has(t)) {
-            throw new IndexOutOfBoundsException("there is no such term");
-        }
-        if (walk.terms.isFull()) {
-            throw new IllegalStateException("there are 200 terms");
-        }
+        refuseMissingTerm(t);
+        refuseTermBeyondMost();
         if (sort < 0 || sort > 2) {
             throw new IllegalArgumentException("a sort is 0 to 2");
         }
@@ -92,12 +84,9 @@ public final class GraphWalker {
 
     public int two(int sort, int a, int b)
             throws IndexOutOfBoundsException, IllegalStateException, IllegalArgumentException {
-        if (!walk.terms.has(a) || !walk.terms.has(b)) {
-            throw new IndexOutOfBoundsException("there is no such term");
-        }
-        if (walk.terms.isFull()) {
-            throw new IllegalStateException("there are 200 terms");
-        }
+        refuseMissingTerm(a);
+        refuseMissingTerm(b);
+        refuseTermBeyondMost();
         if (sort < 0 || sort > 8) {
             throw new IllegalArgumentException("a sort is 0 to 8");
         }
@@ -105,26 +94,20 @@ public final class GraphWalker {
     }
 
     public int choose(int c, int a, int b) throws IndexOutOfBoundsException, IllegalStateException {
-        if (!walk.terms.has(c) || !walk.terms.has(a) || !walk.terms.has(b)) {
-            throw new IndexOutOfBoundsException("there is no such term");
-        }
-        if (walk.terms.isFull()) {
-            throw new IllegalStateException("there are 200 terms");
-        }
+        refuseMissingTerm(c);
+        refuseMissingTerm(a);
+        refuseMissingTerm(b);
+        refuseTermBeyondMost();
         return walk.terms.addChoose(c, a, b);
     }
 
     public int lacks(int t) throws IndexOutOfBoundsException {
-        if (!walk.terms.has(t)) {
-            throw new IndexOutOfBoundsException("there is no such term");
-        }
+        refuseMissingTerm(t);
         return walk.terms.lackOf(t);
     }
 
     public void begin(int t, boolean sharing) throws IndexOutOfBoundsException, IllegalStateException {
-        if (!walk.terms.has(t)) {
-            throw new IndexOutOfBoundsException("there is no such term");
-        }
+        refuseMissingTerm(t);
         if (walk.terms.lackOf(t) != 0) {
             throw new IllegalStateException("the term is not closed");
         }
@@ -132,13 +115,16 @@ public final class GraphWalker {
     }
 
     public int run(int n) throws IllegalStateException, IllegalArgumentException {
-        if (walk.outcome == NO_RUN) {
-            throw new IllegalStateException("there is no run");
-        }
+        refuseMissingRun();
         if (n < 0 || n > MOST_STEPS) {
             throw new IllegalArgumentException("steps are 0 to 5000");
         }
-        return walk.goOn(n);
+        int done = 0;
+        while (done < n && walk.outcome == GOES_ON) {
+            walk.step();
+            done++;
+        }
+        return done;
     }
 
     public void into(int which) throws IllegalStateException, IllegalArgumentException {
@@ -171,16 +157,12 @@ public final class GraphWalker {
     }
 
     public int thing(int k) throws IndexOutOfBoundsException {
-        if (!walk.things.has(k)) {
-            throw new IndexOutOfBoundsException("there is no such thing");
-        }
+        refuseMissingThing(k);
         return walk.things.stateOf(k);
     }
 
     public int worked(int k, int what) throws IndexOutOfBoundsException, IllegalArgumentException {
-        if (!walk.things.has(k)) {
-            throw new IndexOutOfBoundsException("there is no such thing");
-        }
+        refuseMissingThing(k);
         if (what < 0 || what > GREATEST_WORKED) {
             throw new IllegalArgumentException("worked is 0 to 2");
         }
@@ -206,9 +188,7 @@ public final class GraphWalker {
     }
 
     public int collect() throws IllegalStateException {
-        if (walk.outcome == NO_RUN) {
-            throw new IllegalStateException("there is no run");
-        }
+        refuseMissingRun();
         return walk.sweepUnreached();
     }
 
@@ -219,6 +199,30 @@ public final class GraphWalker {
         int before = walk.pace;
         walk.pace = steps;
         return before;
+    }
+
+    private void refuseMissingTerm(int t) {
+        if (!walk.terms.has(t)) {
+            throw new IndexOutOfBoundsException("there is no such term");
+        }
+    }
+
+    private void refuseTermBeyondMost() {
+        if (walk.terms.isFull()) {
+            throw new IllegalStateException("there are 200 terms");
+        }
+    }
+
+    private void refuseMissingRun() {
+        if (walk.outcome == NO_RUN) {
+            throw new IllegalStateException("there is no run");
+        }
+    }
+
+    private void refuseMissingThing(int k) {
+        if (!walk.things.has(k)) {
+            throw new IndexOutOfBoundsException("there is no such thing");
+        }
     }
 
     /** The terms: their parts are earlier terms, but for a variable's first part and an act's third. */
@@ -370,7 +374,6 @@ public final class GraphWalker {
             }
             held[p] = thing;
             outers[p] = outer;
-            marks[p] = 0;
             made = p + 1;
             return p;
         }
@@ -385,15 +388,15 @@ public final class GraphWalker {
 
         int thingAt(int innermost, int index) {
             int p = innermost;
-            for (int i = 0; i < index; i++) {
-                p = outerOf(p);
+            for (int i = 0; i < index && has(p); i++) {
+                p = outers[p];
             }
-            return heldBy(p);
+            return has(p) ? held[p] : NONE;
         }
 
         /** False if there is no such place or this round marked it already. */
         boolean mark(int p, int round) {
-            if (!has(p) || marks[p] == round) {
+            if (p < 0 || p >= MOST_PLACES || marks[p] == round) {
                 return false;
             }
             marks[p] = round;
@@ -401,7 +404,7 @@ public final class GraphWalker {
         }
     }
 
-    /** All things that the run made, and the list of those that are there. */
+    /** All things that the run made, those that are there, and those that a round of collecting reached. */
     private static final class Things {
         private final int[] states = new int[MOST_MADE];
         private final int[] terms = new int[MOST_MADE];
@@ -444,7 +447,6 @@ public final class GraphWalker {
             places[k] = itsPlaces;
             times[k] = 0;
             needers[k] = NONE;
-            marks[k] = 0;
             there[at] = k;
             made = k + 1;
             thereCount = at + 1;
@@ -519,11 +521,12 @@ public final class GraphWalker {
         /** Each thing is listed once a round, so the list never outgrows the things that are there. */
         void reach(int k, int round) {
             int at = reachedCount;
-            if (has(k) && marks[k] != round && at >= 0 && at < MOST_THERE) {
-                marks[k] = round;
-                reached[at] = k;
-                reachedCount = at + 1;
+            if (k < 0 || k >= MOST_MADE || at < 0 || at >= MOST_THERE || marks[k] == round) {
+                return;
             }
+            marks[k] = round;
+            reached[at] = k;
+            reachedCount = at + 1;
         }
 
         int reachedAt(int i) {
@@ -583,11 +586,15 @@ public final class GraphWalker {
             seconds[k] = second;
             numbers[k] = number;
             length = k + 1;
-            greatest = Math.max(greatest, length);
+            if (length > greatest) {
+                greatest = length;
+            }
         }
 
         void drop() {
-            length = Math.max(length - 1, 0);
+            if (length > 0) {
+                length--;
+            }
         }
 
         int newest() {
@@ -612,8 +619,8 @@ public final class GraphWalker {
 
         int newestInWork() {
             for (int k = length - 1; k >= 0; k--) {
-                if (kindOf(k) == IT_WAS_THAT) {
-                    return firstOf(k);
+                if (k < MOST_ENTRIES && kinds[k] == IT_WAS_THAT) {
+                    return firsts[k];
                 }
             }
             return NONE;
@@ -661,16 +668,21 @@ public final class GraphWalker {
             outcome = GOES_ON;
         }
 
-        int goOn(int n) {
-            int done = 0;
-            while (done < n && outcome == GOES_ON) {
-                if (pace > 0 && steps % pace == 0) {
-                    sweepUnreached();
-                }
-                step();
-                done++;
+        void step() {
+            if (pace > 0 && steps % pace == 0) {
+                sweepUnreached();
             }
-            return done;
+            steps++;
+            if (hand == HAND_TERM) {
+                stepWithTerm();
+            } else if (hand == HAND_VALUE) {
+                stepWithValue();
+            } else {
+                need(handThing, false);
+            }
+            if (outcome == GOES_ON && hand == HAND_VALUE && row.length == 0) {
+                outcome = RUN_DONE;
+            }
         }
 
         int tally(int what) {
@@ -711,20 +723,6 @@ public final class GraphWalker {
                 }
             }
             return NONE;
-        }
-
-        private void step() {
-            steps++;
-            if (hand == HAND_TERM) {
-                stepWithTerm();
-            } else if (hand == HAND_VALUE) {
-                stepWithValue();
-            } else {
-                need(handThing, false);
-            }
-            if (outcome == GOES_ON && hand == HAND_VALUE && row.length == 0) {
-                outcome = RUN_DONE;
-            }
         }
 
         private void takeTerm(int term, int itsPlaces) {
@@ -829,10 +827,12 @@ public final class GraphWalker {
         private void need(int thing, boolean asked) {
             switch (things.stateOf(thing)) {
                 case DONE:
+                    if (asked) {
+                        row.drop();
+                    }
                     needsOfDone++;
                     things.copyValue(thing, value);
                     hand = HAND_VALUE;
-                    dropIf(asked);
                     break;
                 case WAITING:
                     needWaiting(thing, asked);
@@ -853,7 +853,9 @@ public final class GraphWalker {
                 outcome = ROOM;
                 return;
             }
-            dropIf(asked);
+            if (asked) {
+                row.drop();
+            }
             needsOfWaiting++;
             things.countWork(thing);
             if (shares) {
@@ -861,12 +863,6 @@ public final class GraphWalker {
                 row.add(IT_WAS_THAT, thing, NONE, 0L);
             }
             takeTerm(things.termOf(thing), things.placesOf(thing));
-        }
-
-        private void dropIf(boolean asked) {
-            if (asked) {
-                row.drop();
-            }
         }
 
         private void stepWithValue() {
@@ -925,7 +921,7 @@ public final class GraphWalker {
         }
 
         private void actWith(int act, long before) {
-            if (value.sort != A_NUMBER || act == QUOTIENT && value.number == 0L) {
+            if (value.sort != A_NUMBER || (act == QUOTIENT && value.number == 0L)) {
                 outcome = WRONG;
                 return;
             }
@@ -968,7 +964,8 @@ public final class GraphWalker {
             need(thing, true);
         }
 
-        private int sweepUnreached() {
+        int sweepUnreached() {
+            // No round comes twice, not even in another run, so no mark is ever cleared.
             round++;
             things.forgetReached();
             reachFromHand();

@@ -358,6 +358,8 @@ public final class PromisesTest {
         Check.due("endless", endOf(x, x.two(LET, v0, v0)), 3);
         Check.due("wrong", endOf(x, x.one(FIRST, six)), 4);
         Check.due("wrong", endOf(x, x.one(SECOND, self)), 4);
+        int ofLambda = x.one(SECOND, x.one(LAMBDA, v0));
+        Check.due("wrong with places", endOf(x, x.two(APPLY, x.one(LAMBDA, ofLambda), six)), 4);
         Check.due("room", endOf(x, x.two(APPLY, self, self)), 5);
         Check.due("run(1) behind the end", x.run(1), 0);
         Check.due("it stays", x.outcome(), 5);
@@ -365,6 +367,7 @@ public final class PromisesTest {
         thingsThereEnd();
         thingsMadeEnd();
         rowEnds();
+        rowWithoutSharing();
         wrongIsAheadOfRoom();
     }
 
@@ -404,7 +407,8 @@ public final class PromisesTest {
             : sort == 2 ? x.two(PAIR, v0, v0)
             : sort == 3 ? x.two(LET, six, six)
             : sort == 4 ? x.two(APPLY, x.one(LAMBDA, six), six)
-            : x.two(APPLY, x.one(LAMBDA, six), v0);
+            : sort == 5 ? x.two(APPLY, x.one(LAMBDA, six), v0)
+            : x.two(APPLY, x.one(LAMBDA, x.two(LET, six, six)), v0);
         x.every(pace);
         x.begin(loop(x, rounds, last), true);
         for (int i = 0; i < 4; i++) {
@@ -440,6 +444,8 @@ public final class PromisesTest {
         endOfLoop("999 made", 997, 1, 4, 2, 1000);
         endOfLoop("1000 made", 998, 1, 4, 5, 1000);
         endOfLoop("1000 made, 1001st place", 998, 1, 5, 5, 1000);
+        endOfLoop("a let with the 1000th place", 996, 1, 6, 2, 999);
+        endOfLoop("a let with the 1001st place", 997, 1, 6, 5, 999);
         endOfLoop("too many rounds", 999, 1, 2, 5, 1000);
     }
 
@@ -494,6 +500,26 @@ public final class PromisesTest {
             Check.due("it was not needed", x.worked(x.told(1) - 1, 1), -1);
             Check.due("needs of waiting ones: 201 numbers and f", x.told(6), 202);
         }
+    }
+
+    /** LET f = (x: x under 150 entries) in f (f 6): without sharing need brings nothing to the row. */
+    private static void rowWithoutSharing() {
+        GraphWalker x = new GraphWalker();
+        int v0 = x.variable(0);
+        int six = x.number(6);
+        int zero = x.number(0);
+        int deep = v0;
+        for (int i = 0; i < 150; i++) {
+            deep = x.two(ADD, deep, zero);
+        }
+        int twice = x.two(APPLY, v0, x.two(APPLY, v0, six));
+        int t = x.two(LET, x.one(LAMBDA, deep), twice);
+        x.begin(t, false);
+        x.run(5000);
+        Check.due("without sharing", x.outcome(), 2);
+        Check.due("its value", x.value(), 6);
+        Check.due("its greatest length", x.told(4), 300);
+        Check.due("with sharing", endOf(x, t), 5);
     }
 
     private static void wrongIsAheadOfRoom() {
@@ -683,6 +709,14 @@ public final class PromisesTest {
         Check.due("low worked", x.worked(0, 0), 4);
         Check.due("high worked", x.worked(1, 0), 2);
         Check.due("low needed by", x.worked(0, 1), -1);
+        // LET a = 6 in LET b = a + 6 in LET c = b + 6 in c: 2 needs 1, 1 needs 0.
+        int next = x.two(ADD, v1, six);
+        x.begin(x.two(LET, six, x.two(LET, next, x.two(LET, next, v0))), true);
+        x.run(99);
+        Check.due("value() of a row of three", x.value(), 18);
+        Check.due("c needed by", x.worked(2, 1), -1);
+        Check.due("b needed by", x.worked(1, 1), 2);
+        Check.due("a needed by the latest in work", x.worked(0, 1), 1);
     }
 
     private static void promise17Ring() {
@@ -807,6 +841,7 @@ public final class PromisesTest {
         Check.due("the whole", x.thing(0), 3);
         x.begin(x.two(PAIR, six, five), true);
         x.run(1);
+        Check.due("a pair holds both things", x.collect(), 0);
         x.into(1);
         Check.due("into() holds its thing alone", x.collect(), 1);
         Check.due("the first", x.thing(0), 3);
@@ -814,6 +849,7 @@ public final class PromisesTest {
         x.run(9);
         Check.due("the second's value", x.value(), 5);
         collectByRow();
+        collectThroughDone();
         collectInWork();
     }
 
@@ -836,10 +872,28 @@ public final class PromisesTest {
         x.begin(x.two(APPLY, x.one(LAMBDA, x.one(FIRST, x.two(PAIR, six, v0))), six), true);
         x.run(99);
         Check.due("things of first", x.collect(), 2);
-        x.begin(x.two(APPLY, x.one(LAMBDA, x.one(SECOND, six)), six), true);
+        for (int sort = FIRST; sort <= SECOND; sort++) {
+            x.begin(x.two(APPLY, x.one(LAMBDA, x.one(sort, six)), six), true);
+            x.run(99);
+            Check.due("wrong", x.outcome(), 4);
+            Check.due("first and second hold nothing", x.collect(), 1);
+        }
+    }
+
+    /** LET g = (a: b: a) 7 in CHOOSE (g 0), (PAIR g, g), 6: 0 g, 1 the 0, 2 the 7. */
+    private static void collectThroughDone() {
+        GraphWalker x = new GraphWalker();
+        int v0 = x.variable(0);
+        int six = x.number(6);
+        int g = x.two(APPLY, x.one(LAMBDA, x.one(LAMBDA, x.variable(1))), x.number(7));
+        int given = x.two(APPLY, v0, x.number(0));
+        x.begin(x.two(LET, g, x.choose(given, x.two(PAIR, v0, v0), six)), true);
         x.run(99);
-        Check.due("wrong", x.outcome(), 4);
-        Check.due("second holds nothing", x.collect(), 1);
+        Check.due("a pair", x.sort(), 2);
+        Check.due("a done lambda holds its places", x.collect(), 1);
+        Check.due("g", x.thing(0), 2);
+        Check.due("the 0", x.thing(1), 3);
+        Check.due("the 7", x.thing(2), 2);
     }
 
     private static void collectInWork() {
