@@ -972,7 +972,7 @@ public final class PromisesTest {
         Check.due("its value", x.value(), 12);
     }
 
-    /** The steps of a run that into() turned are numbered on: 3 behind the pair that took 1 and 2. */
+    /** into() numbers the steps on: the pair is step 0, the need of its first step 1. */
     private static void stepsGoOnThroughInto() {
         GraphWalker x = new GraphWalker();
         int six = x.number(6);
@@ -982,9 +982,9 @@ public final class PromisesTest {
         x.run(9);
         x.into(0);
         x.run(1);
-        Check.due("step 1", x.told(2), 2);
+        Check.due("no collecting ahead of step 1", x.told(2), 2);
         x.run(1);
-        Check.due("step 2", x.told(2), 1);
+        Check.due("collecting ahead of step 2", x.told(2), 1);
     }
 
     private static void collectingMakesRoom() {
