@@ -21,6 +21,13 @@ final class Check {
         }
     }
 
+    static void same(String what, String got, String want) {
+        if (!got.equals(want)) {
+            wrong++;
+            System.out.println(part + ": " + what + " answered\n  " + got + "\n  due is\n  " + want);
+        }
+    }
+
     static void isTrue(String what, boolean holds) {
         due(what, holds ? 1 : 0, 1);
     }

@@ -1,21 +1,5 @@
 /** Each promise of the document: ordinary inputs, its edges, wrong inputs. */
-public final class PromisesTest {
-    private static final int LAMBDA = 0;
-    private static final int FIRST = 1;
-    private static final int SECOND = 2;
-    private static final int APPLY = 0;
-    private static final int LET = 1;
-    private static final int PAIR = 2;
-    private static final int ADD = 3;
-    private static final int TAKE = 4;
-    private static final int TIMES = 5;
-    private static final int QUOTIENT = 6;
-    private static final int EQUAL = 7;
-    private static final int LESS = 8;
-
-    private static final int BAD_LOW = Integer.MIN_VALUE;
-    private static final int BAD_HIGH = Integer.MAX_VALUE;
-
+public final class PromisesTest extends Parts {
     public static void main(String[] args) {
         promise1NewObject();
         promise2Number();
@@ -389,15 +373,6 @@ public final class PromisesTest {
         Check.due("collect()", x.collect(), 0);
     }
 
-    /** LET f = (n: CHOOSE n, f (n - 1), last) in f rounds; in last variable 0 is n, 1 is f. */
-    private static int loop(GraphWalker x, long rounds, int last) {
-        int n = x.variable(0);
-        int f = x.variable(1);
-        int less = x.two(TAKE, n, x.number(1));
-        int body = x.choose(n, x.two(APPLY, f, less), last);
-        return x.two(LET, x.one(LAMBDA, body), x.two(APPLY, n, x.number(rounds)));
-    }
-
     private static void endOfLoop(String what, long rounds, int pace, int sort, int outcome, int made) {
         GraphWalker x = new GraphWalker();
         int v0 = x.variable(0);
@@ -447,20 +422,6 @@ public final class PromisesTest {
         endOfLoop("a let with the 1000th place", 996, 1, 6, 2, 999);
         endOfLoop("a let with the 1001st place", 997, 1, 6, 5, 999);
         endOfLoop("too many rounds", 999, 1, 2, 5, 1000);
-    }
-
-    /** Works inner under a row of that many entries "then b". */
-    private static int under(GraphWalker x, int entries, int inner) {
-        int zero = x.number(0);
-        int last = inner;
-        for (int i = 0; i < entries - 200; i++) {
-            last = x.two(ADD, last, zero);
-        }
-        int n = x.variable(0);
-        int f = x.variable(1);
-        int call = x.two(APPLY, f, x.two(TAKE, n, x.number(1)));
-        int body = x.choose(n, x.two(ADD, call, zero), last);
-        return x.two(LET, x.one(LAMBDA, body), x.two(APPLY, n, x.number(200)));
     }
 
     private static void rowEnds() {
@@ -997,21 +958,5 @@ public final class PromisesTest {
             Check.due("its value", x.value(), pace == 0 ? 0 : 3);
             Check.due("things made", x.told(1), pace == 0 ? 300 : 402);
         }
-    }
-
-    private static int endOf(GraphWalker x, int t) {
-        x.begin(t, true);
-        x.run(5000);
-        return x.outcome();
-    }
-
-    private static int sortOf(GraphWalker x, int t) {
-        endOf(x, t);
-        return x.sort();
-    }
-
-    private static long worth(GraphWalker x, int t) {
-        endOf(x, t);
-        return x.value();
     }
 }
