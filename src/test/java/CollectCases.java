@@ -410,8 +410,8 @@ final class CollectCases extends Parts {
 
     static void promise20ChangesNoAnswer() {
         Term term = x -> loop(x, 30, x.two(PAIR, x.variable(0), x.number(7)));
-        GraphWalker plain = ended(term);
         for (int pace = 1; pace <= 50; pace += 7) {
+            GraphWalker plain = ended(term);
             GraphWalker x = endedWith(term, pace);
             Check.same("every(" + pace + ")", Seen.end(x), Seen.end(plain));
             for (int what = 1; what < 8; what++) {

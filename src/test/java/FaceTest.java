@@ -44,11 +44,30 @@ public final class FaceTest {
         "static\\s*\\{", "\\bgetMessage\\b", "\\bhashCode\\b", "\\btoString\\b", "\\bSystem\\.(?!arraycopy)",
         "\\bThread\\b", "\\bprotected\\b", "\\bpackage\\b", "\\[\\]\\[\\]\\[\\]", "\\bObject\\b");
 
+    private static final Pattern DOCUMENTED =
+        Pattern.compile("    public (\\w+) (\\w+)\\((.*)\\)(?: throws (.*))?;");
+
     public static void main(String[] args) throws IOException {
+        document();
         face();
         nestedClasses();
         text();
         Check.end();
+    }
+
+    /** The list above is the document's. */
+    private static void document() throws IOException {
+        Check.part("the document's face");
+        Set<String> found = new TreeSet<>();
+        for (String line : Files.readAllLines(Path.of("../shared/DOC.md"))) {
+            Matcher m = DOCUMENTED.matcher(line);
+            if (m.matches()) {
+                String types = m.group(3).replaceAll(" \\w+(, )?", ",").replaceAll(",$", "");
+                String thrown = m.group(4) == null ? "" : " " + m.group(4).replace(",", "");
+                found.add(m.group(1) + " " + m.group(2) + "(" + types + ")" + thrown);
+            }
+        }
+        Check.same("its methods", found.toString(), new TreeSet<>(FACE).toString());
     }
 
     private static void face() {

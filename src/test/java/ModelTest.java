@@ -6,6 +6,8 @@ import java.util.Random;
 public final class ModelTest {
     private static final int FREE_RUNS = 3000;
     private static final int PROGRAM_RUNS = 6000;
+    /** What an object answers behind as many calls is free. */
+    private static final int MOST_CALLS = 512;
 
     private static final int[] ends = new int[6];
 
@@ -17,6 +19,7 @@ public final class ModelTest {
     private final String name;
     private final GraphWalker real = new GraphWalker();
     private final PlainModel model = new PlainModel();
+    private int calls = 0;
     private int terms = 0;
     private final List<Integer> closed = new ArrayList<>();
     private boolean differs = false;
@@ -54,6 +57,10 @@ public final class ModelTest {
 
     private long both(String what, Call ofReal, Call ofModel) {
         long want = answer(ofModel);
+        if (calls == MOST_CALLS) {
+            return want;
+        }
+        calls++;
         long got = answer(ofReal);
         if (got != want && !differs) {
             differs = true;
@@ -127,30 +134,109 @@ public final class ModelTest {
         both("collect", real::collect, model::collect);
     }
 
-    /** All that can be asked, and one beyond it at each end. */
-    private void look() {
+    private void askTold(int what) {
+        both("told(" + what + ")", () -> real.told(what), () -> model.told(what));
+    }
+
+    private void askThing(int k) {
+        both("thing(" + k + ")", () -> real.thing(k), () -> model.thing(k));
+    }
+
+    private void askWorked(int k, int what) {
+        both("worked(" + k + ", " + what + ")", () -> real.worked(k, what), () -> model.worked(k, what));
+    }
+
+    private void askEntry(int k) {
+        both("entry(" + k + ")", () -> real.entry(k), () -> model.entry(k));
+    }
+
+    private void askRing(int k) {
+        both("ring(" + k + ")", () -> real.ring(k), () -> model.ring(k));
+    }
+
+    private void askLacks(int t) {
+        both("lacks(" + t + ")", () -> real.lacks(t), () -> model.lacks(t));
+    }
+
+    private void askEnd() {
         both("outcome", real::outcome, model::outcome);
         both("sort", real::sort, model::sort);
         both("value", real::value, model::value);
-        for (int i = -1; i <= 8; i++) {
-            int what = i;
-            both("told(" + what + ")", () -> real.told(what), () -> model.told(what));
+    }
+
+    private int things() {
+        return Math.max(model.told(1), 0);
+    }
+
+    private int entries() {
+        return Math.max(model.told(3), 0);
+    }
+
+    private int questions() {
+        return 3 + 10 + 6 * (things() + 2) + 2 * (entries() + 2) + terms + 2;
+    }
+
+    /** All that can be asked if the object is good for as many calls, else some of it. */
+    private void lookAtEnd() {
+        if (calls + questions() > MOST_CALLS) {
+            look(MOST_CALLS - calls - 3);
+            return;
         }
-        int things = Math.max(model.told(1), 0);
-        for (int i = -1; i <= things; i++) {
-            int k = i;
-            both("thing(" + k + ")", () -> real.thing(k), () -> model.thing(k));
-            for (int j = -1; j <= 3; j++) {
-                int what = j;
-                both("worked(" + k + ", " + what + ")", () -> real.worked(k, what),
-                    () -> model.worked(k, what));
+        askEnd();
+        for (int what = -1; what <= 8; what++) {
+            askTold(what);
+        }
+        for (int k = -1; k <= things(); k++) {
+            askThing(k);
+            for (int what = -1; what <= 3; what++) {
+                askWorked(k, what);
             }
         }
-        int row = Math.max(model.told(3), 0);
-        for (int i = -1; i <= row; i++) {
-            int k = i;
-            both("entry(" + k + ")", () -> real.entry(k), () -> model.entry(k));
-            both("ring(" + k + ")", () -> real.ring(k), () -> model.ring(k));
+        for (int k = -1; k <= entries(); k++) {
+            askEntry(k);
+            askRing(k);
+        }
+        for (int t = -1; t <= terms; t++) {
+            askLacks(t);
+        }
+    }
+
+    private void look(int most) {
+        askEnd();
+        for (int i = 0; i < most; i++) {
+            askOne();
+        }
+    }
+
+    /** One of so many, or one beyond them at either end. */
+    private int among(int count) {
+        return below(count + 2) - 1;
+    }
+
+    private void askOne() {
+        switch (below(8)) {
+            case 0:
+            case 1:
+                askTold(among(8));
+                break;
+            case 2:
+            case 3:
+                askThing(among(things()));
+                break;
+            case 4:
+            case 5:
+                askWorked(among(things()), among(3));
+                break;
+            case 6:
+                askEntry(among(entries()));
+                break;
+            default:
+                if (below(4) == 0) {
+                    askLacks(among(terms));
+                } else {
+                    askRing(model.outcome() == 3 ? among(3) : among(entries()));
+                }
+                break;
         }
     }
 
@@ -177,18 +263,14 @@ public final class ModelTest {
     }
 
     private void freeRun() {
-        int calls = 20 + below(250);
-        for (int i = 0; i < calls && !differs; i++) {
+        int many = 20 + below(250);
+        for (int i = 0; i < many && !differs && calls < MOST_CALLS - 100; i++) {
             freeCall();
             if (below(4) == 0) {
-                look();
+                look(5);
             }
         }
-        for (int t = 0; t < terms; t++) {
-            int k = t;
-            both("lacks(" + k + ")", () -> real.lacks(k), () -> model.lacks(k));
-        }
-        look();
+        lookAtEnd();
         ends[model.outcome()]++;
     }
 
@@ -255,7 +337,7 @@ public final class ModelTest {
             if (below(4) == 0) {
                 collect();
             }
-            look();
+            look(20);
             if (model.sort() == 2) {
                 into(below(2));
             } else if (model.outcome() != 1) {
@@ -264,8 +346,8 @@ public final class ModelTest {
         }
         if (below(2) == 0) {
             collect();
-            look();
         }
+        lookAtEnd();
         ends[model.outcome()]++;
     }
 
