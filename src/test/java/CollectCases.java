@@ -213,6 +213,29 @@ final class CollectCases extends Parts {
         Check.due("the pair's second", x.thing(299), 0);
     }
 
+    /** u u 160 with u = (s: n: CHOOSE n, (s s (n - 1)) + n, 0): each round has a place of u and one of n. */
+    private static int sumByItself(GraphWalker x) {
+        int n = x.variable(0);
+        int s = x.variable(1);
+        int call = x.two(APPLY, x.two(APPLY, s, s), x.two(TAKE, n, x.number(1)));
+        int body = x.choose(n, x.two(ADD, call, n), x.number(0));
+        int u = x.one(LAMBDA, x.one(LAMBDA, body));
+        return x.two(APPLY, x.two(APPLY, u, u), x.number(160));
+    }
+
+    static void promise19AThingThatManyPlacesHold() {
+        GraphWalker x = behind(CollectCases::sumByItself, true, 2573);
+        Check.due("then b", x.told(3), 160);
+        Check.due("places", x.told(7), 322);
+        Check.due("each n and u", x.told(2), 162);
+        Check.due("collect()", x.collect(), 0);
+        Check.due("u", x.thing(1), 2);
+        Check.due("the last n but one", x.thing(160), 2);
+        x.run(5000);
+        Check.due("value", x.value(), 12880);
+        Check.due("collecting ahead of each step", endedWith(CollectCases::sumByItself, 1).value(), 12880);
+    }
+
     static void promise19WithoutSharing() {
         Term term = x -> x.two(LET, x.number(5), x.variable(0));
         GraphWalker x = behind(term, false, 2);
